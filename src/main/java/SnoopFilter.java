@@ -22,8 +22,8 @@ public final class SnoopFilter {
     private static final int TEXT_ROOM = 80;
     private static final int HISTORY_ROOM = 4;
 
-    /** The shortest command has two characters and a ";" behind it, so a full text has at most 27. */
-    private static final int COMMAND_ROOM = TEXT_ROOM / 2;
+    /** The shortest command has two characters, and each but the last has a ";" behind it. */
+    private static final int COMMAND_ROOM = (TEXT_ROOM + 1) / 3;
 
     private static final int FIRST_FAULT = -100;
     private static final int NO_LINE = -1;
@@ -526,7 +526,6 @@ public final class SnoopFilter {
 
         void empty(int place) {
             lines[place] = NO_LINE;
-            values[place] = 0;
             dirty[place] = false;
         }
 

@@ -17,6 +17,7 @@ public final class ReadingWritingTest {
         test.readDropsBeforeItCounts();
         test.readErrors();
         test.countersStick();
+        test.eachCounterSticks();
         test.loweredLimit();
         test.fullFilterForgets();
         test.fullFilterWritesBack();
@@ -198,6 +199,28 @@ public final class ReadingWritingTest {
         due.is("counter 5 counts", x.counter(0, 5), 2);
         x.drop(0, 0);
         due.is("counter 5 counts down", x.counter(0, 5), 1);
+    }
+
+    /** The counter c is that of the line c, and of the line 7 * (c - 5) modulo 24. */
+    private void eachCounterSticks() {
+        for (int counter = 0; counter < 24; counter++) {
+            int other = Math.floorMod(7 * (counter - 5), 24);
+            SnoopFilter x = new SnoopFilter();
+            x.set(0, 1);
+            x.read(2, counter);
+            x.read(2, other);
+            due.is("stuck for " + counter, x.core(2, 3), 1);
+            x.drop(2, counter);
+            x.drop(2, other);
+            due.is("above 0 for " + counter, x.core(2, 2), 1);
+            due.is("counter " + counter, x.counter(2, counter), 1);
+            SnoopFilter y = new SnoopFilter();
+            y.set(0, 2);
+            y.read(2, counter);
+            y.read(2, other);
+            due.is("none is stuck for " + counter, y.core(2, 3), 0);
+            due.is("counter " + counter + " of two lines", y.counter(2, counter), 2);
+        }
     }
 
     /** Lines 0, 5 and 29 have the counter 5; 5 and 29 have one place, so that it never is above 2. */

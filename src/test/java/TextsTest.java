@@ -16,6 +16,7 @@ public final class TextsTest {
         test.programsWithoutFault();
         test.everyPrefix();
         test.performs();
+        test.performGoesOnFromTheState();
         test.performIsOneAct();
         test.performStops();
         test.stopStays();
@@ -201,6 +202,23 @@ public final class TextsTest {
         due.is("again", x.perform(), 9 + 8 + 8);
         due.is("values written do not count", Due.perform(x, "w0.7=1;w0.8=2"), 0);
         due.is("writes then", x.count(9), 6);
+    }
+
+    /** What was done between two programs counts, and what was undone does not. */
+    private void performGoesOnFromTheState() {
+        SnoopFilter x = new SnoopFilter();
+        x.write(0, 1, 4);
+        due.is("sum", Due.perform(x, "r1.1"), 4);
+        due.is("writes", x.count(9), 1);
+        x.write(2, 1, 6);
+        x.cost(3, 1, true, 0);
+        due.is("sum then", x.perform(), 6);
+        due.is("writes then", x.count(9), 2);
+        x.undo();
+        x.undo();
+        due.is("sum behind undo()", x.perform(), 4);
+        due.is("a hit", x.count(7), 1);
+        due.is("writes behind undo()", x.count(9), 1);
     }
 
     private void performIsOneAct() {

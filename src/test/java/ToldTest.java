@@ -24,11 +24,13 @@ public final class ToldTest {
         test.costOfReading();
         test.costOfWriting();
         test.costOfForgetting();
+        test.costAloneIsTold();
         test.costChangesNothing();
         test.costErrors();
         test.vainLines();
         test.vainAfterDropping();
         test.worstCore();
+        test.worstOfEach();
         test.accountsAddUp();
         test.countErrors();
         test.due.close();
@@ -276,6 +278,23 @@ public final class ToldTest {
         cost(x, 3, 200, true, 0, 0, 0, 1);
     }
 
+    /** Snoops, lines written back and forgetting that were before are no part of the cost. */
+    private void costAloneIsTold() {
+        SnoopFilter x = new SnoopFilter();
+        x.write(1, 0, 1);
+        x.read(1, 17);
+        x.read(0, 24);
+        x.read(2, 0);
+        x.forget(2);
+        due.is("came before", x.count(2), 2);
+        due.is("in vain before", x.count(3), 1);
+        due.is("written back before", x.count(5), 1);
+        due.is("forgot before", x.count(6), 1);
+        cost(x, 3, 100, false, 0, 0, 0, 0);
+        cost(x, 3, 100, true, 0, 0, 0, 0);
+        cost(x, 3, 24, false, 2, 1, 0, 0);
+    }
+
     private void costChangesNothing() {
         SnoopFilter x = busy();
         int[] before = new int[14];
@@ -353,6 +372,16 @@ public final class ToldTest {
         due.is("3 the most", x.worst(), 3);
         x.undo();
         due.is("2 and 3 again", x.worst(), 2);
+    }
+
+    private void worstOfEach() {
+        for (int worst = 0; worst < 4; worst++) {
+            SnoopFilter x = new SnoopFilter();
+            x.read(worst, 0);
+            x.read(worst, 17);
+            x.read((worst + 1) % 4, 24);
+            due.is("worst of " + worst, x.worst(), worst);
+        }
     }
 
     private void accountsAddUp() {
