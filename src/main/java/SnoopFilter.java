@@ -387,6 +387,16 @@ public final class SnoopFilter {
         return isWithin(line, 0, LINES - 1);
     }
 
+    private static int howManyAreTrue(boolean[] row) {
+        int found = 0;
+        for (boolean one : row) {
+            if (one) {
+                found++;
+            }
+        }
+        return found;
+    }
+
     private void noteStop(int number, int error) {
         hasStop = true;
         stopNumber = number;
@@ -455,23 +465,11 @@ public final class SnoopFilter {
         }
 
         int stuckCounters() {
-            int found = 0;
-            for (int counter = 0; counter < COUNTERS; counter++) {
-                if (stuck[counter]) {
-                    found++;
-                }
-            }
-            return found;
+            return howManyAreTrue(stuck);
         }
 
         int bitsThatAreOne() {
-            int found = 0;
-            for (int region = 0; region < REGIONS; region++) {
-                if (bits[region]) {
-                    found++;
-                }
-            }
-            return found;
+            return howManyAreTrue(bits);
         }
 
         void wipe() {
@@ -559,13 +557,7 @@ public final class SnoopFilter {
         }
 
         int dirtyLines() {
-            int found = 0;
-            for (int place = 0; place < PLACES; place++) {
-                if (dirty[place]) {
-                    found++;
-                }
-            }
-            return found;
+            return howManyAreTrue(dirty);
         }
 
         boolean hasNothingToForget() {
