@@ -14,8 +14,11 @@ import java.util.regex.Pattern;
  * are maps, its texts are read by a pattern, and its costs are reckoned instead of tried. The seeds are fixed.
  */
 public final class ModelTest {
-    private static final int RUNS = 1500;
+    private static final int RUNS = 2500;
     private static final int CALLS = 512;
+
+    /** The most that one more act (a text that is typed and performed) and what is asked at the end can take. */
+    private static final int LAST_CALLS = 140 + 110;
     private static final Pattern PROGRAM = pattern();
 
     private final Due due = new Due("ModelTest");
@@ -522,7 +525,7 @@ public final class ModelTest {
         int calls = 0;
         int fulls = 1 + random.nextInt(24);
         int limits = 1 + random.nextInt(9);
-        while (calls < CALLS - 100) {
+        while (calls < CALLS - LAST_CALLS) {
             calls += actOn(x, model, random, seed, calls, fulls, limits);
             calls += ask(x, model, random, seed, calls);
         }
@@ -616,33 +619,35 @@ public final class ModelTest {
         }
     }
 
-    /** What is told changes nothing, so that all of it may be asked at the end, beyond the 512th call too. */
+    /** Asks of one core and of some lines, as there are not calls enough for all of them. */
     private void finish(SnoopFilter x, Model m, int seed, int call) {
-        for (int core = 0; core < 4; core++) {
-            for (int what = 0; what <= 10; what++) {
-                same(seed, call, "core(" + core + ", " + what + ")", x.core(core, what), m.now.core(core, what));
-            }
-            for (int counter = 0; counter < 24; counter++) {
-                same(seed, call, "counter(" + core + ", " + counter + ")", x.counter(core, counter),
-                        m.now.counters.get(core).getOrDefault(counter, 0));
-            }
-            for (int region = 0; region < 16; region++) {
-                same(seed, call, "bit(" + core + ", " + region + ")", x.bit(core, region),
-                        m.now.regions.get(core).contains(region) ? 1 : 0);
-            }
-            for (int place = 0; place < 8; place++) {
-                int line = m.now.victim(core, place);
-                Cell cell = m.now.caches.get(core).get(line);
-                same(seed, call, "held line", x.held(core, place, 0), cell == null ? -5 : line);
-                same(seed, call, "held value", x.held(core, place, 1), cell == null ? -5 : cell.value);
-                same(seed, call, "held dirty", x.held(core, place, 2), cell == null ? -5 : cell.dirty ? 1 : 0);
-            }
-        }
+        finishCore(x, m, seed, call, seed / 4 % 4);
         for (int what = 0; what <= 13; what++) {
             same(seed, call, "count(" + what + ")", x.count(what), m.count(what));
         }
-        for (int line = 0; line < 256; line += 3) {
+        for (int line = seed % 25; line < 256; line += 25) {
             same(seed, call, "line(" + line + ", 0)", x.line(line, 0), m.now.line(line, 0));
+        }
+    }
+
+    private void finishCore(SnoopFilter x, Model m, int seed, int call, int core) {
+        for (int what = 0; what <= 10; what++) {
+            same(seed, call, "core(" + core + ", " + what + ")", x.core(core, what), m.now.core(core, what));
+        }
+        for (int counter = 0; counter < 24; counter++) {
+            same(seed, call, "counter(" + core + ", " + counter + ")", x.counter(core, counter),
+                    m.now.counters.get(core).getOrDefault(counter, 0));
+        }
+        for (int region = 0; region < 16; region++) {
+            same(seed, call, "bit(" + core + ", " + region + ")", x.bit(core, region),
+                    m.now.regions.get(core).contains(region) ? 1 : 0);
+        }
+        for (int place = 0; place < 8; place++) {
+            int line = m.now.victim(core, place);
+            Cell cell = m.now.caches.get(core).get(line);
+            same(seed, call, "held line", x.held(core, place, 0), cell == null ? -5 : line);
+            same(seed, call, "held value", x.held(core, place, 1), cell == null ? -5 : cell.value);
+            same(seed, call, "held dirty", x.held(core, place, 2), cell == null ? -5 : cell.dirty ? 1 : 0);
         }
     }
 }

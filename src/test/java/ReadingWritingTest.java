@@ -41,13 +41,14 @@ public final class ReadingWritingTest {
     }
 
     private void newObject() {
-        SnoopFilter x = new SnoopFilter();
         for (int line = 0; line < 256; line++) {
+            SnoopFilter x = new SnoopFilter();
             due.is("new: line(" + line + ", 0)", x.line(line, 0), 0);
             due.is("new: line(" + line + ", 1)", x.line(line, 1), 0);
             due.is("new: line(" + line + ", 2)", x.line(line, 2), 0);
             due.is("new: line(" + line + ", 3)", x.line(line, 3), 0);
         }
+        SnoopFilter x = new SnoopFilter();
         for (int core = 0; core < 4; core++) {
             for (int what = 0; what <= 10; what++) {
                 due.is("new: core(" + core + ", " + what + ")", x.core(core, what), 0);
