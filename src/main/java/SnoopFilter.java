@@ -877,8 +877,12 @@ public final class SnoopFilter {
         private int takeNumber(int highest) {
             int number = 0;
             int first = at;
-            while (isDigitUpTo(9) && (number > 0 || at == first) && 10 * number + text[at] - '0' <= highest) {
-                number = 10 * number + text[at] - '0';
+            while (at < length && isDigitUpTo(9) && (number > 0 || at == first)) {
+                int longer = 10 * number + text[at] - '0';
+                if (longer > highest) {
+                    break;
+                }
+                number = longer;
                 at++;
             }
             return number;
